@@ -1,0 +1,19 @@
+/** Runs every test of the project. */
+public final class AllTests {
+    private AllTests() {
+    }
+
+    public static void main(String[] args) {
+        FaceTest.run();
+        ServicesTest.run();
+        CallsTest.run();
+        TickTest.run();
+        TriesTest.run();
+        BreakerTest.run();
+        ReadingsTest.run();
+        ModelTest.run();
+        if (!Check.close()) {
+            System.exit(1);
+        }
+    }
+}
