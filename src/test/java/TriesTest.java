@@ -10,6 +10,8 @@ final class TriesTest {
         againAnewAtTheNextPlace();
         secondTryAfterPatience();
         firstAnswerCancelsTheOther();
+        answerLeavesOtherTrees();
+        secondTryAtTheNextPlace();
         secondTryIsTheOnlyOne();
         noSecondTryWithoutPatience();
         noSecondTryOfOneTriedAgain();
@@ -179,6 +181,48 @@ final class TriesTest {
         Check.same("one below", y.below(0), 1);
         Check.same("step 3 no second try of a service without patience", y.pass(9), 0);
         Check.same("step 3 done at last", y.pass(1), 1);
+    }
+
+    private static void answerLeavesOtherTrees() {
+        DeadlineCalls x = slow(3, 2);
+        x.call(5, 90);
+        x.pass(3);
+        x.setWork(4, 20, 0);
+        x.call(4, 90);
+        x.pass(7);
+        Check.same("step 3 the second try is cancelled", x.state(3), DeadlineCalls.CANCELLED);
+        Check.same("step 3 another root goes on", x.state(4), DeadlineCalls.WORKING);
+        // Of two trees the first has its answer ahead of the second, and goes on at place 1.
+        DeadlineCalls y = new DeadlineCalls();
+        y.ask(0, 1);
+        y.ask(0, 2);
+        y.setWork(1, 5, 0);
+        y.setWork(2, 20, 0);
+        y.call(0, 90);
+        y.pass(2);
+        y.call(0, 90);
+        y.pass(4);
+        Check.same("step 3 the first is at place 1", y.place(0), 1);
+        Check.same("step 3 the second at place 0", y.place(2), 0);
+        Check.same("step 3 and its try works", y.state(3), DeadlineCalls.WORKING);
+    }
+
+    private static void secondTryAtTheNextPlace() {
+        DeadlineCalls x = slow(0, 2);
+        x.ask(0, 2);
+        x.cancel(0);
+        x.setWork(1, 1, 0);
+        x.setWork(2, 10, 0);
+        x.setRoom(2, 2, 4, 3);
+        int root = x.call(0, 90);
+        x.pass(2);
+        Check.same("step 3 at place 1", x.place(root), 1);
+        Check.same("step 4 with one try for it", x.calls(), root + 3);
+        x.pass(2);
+        Check.same("step 3 no second one yet", x.calls(), root + 3);
+        x.pass(1);
+        Check.same("step 3 a second one after 3 ticks", x.calls(), root + 4);
+        Check.same("step 4 of service 2", x.origin(root + 3), 2000 + root + 1);
     }
 
     private static void secondTryIsTheOnlyOne() {
