@@ -467,7 +467,9 @@ public final class DeadlineCalls {
         }
 
         void noteDone() {
-            tokens = Math.min(tokens + 1, MOST_TOKENS);
+            if (tokens < MOST_TOKENS) {
+                tokens++;
+            }
             troubles = 0;
         }
 
