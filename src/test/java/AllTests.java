@@ -11,6 +11,14 @@ public final class AllTests {
         TriesTest.run();
         BreakerTest.run();
         ReadingsTest.run();
+        RefusedTest.run();
+        LimitsTest.run();
+        CapacityTest.run();
+        DeadlineTest.run();
+        TokensTest.run();
+        TryEdgeTest.run();
+        BreakerEdgeTest.run();
+        StatesTest.run();
         ModelTest.run();
         if (!Check.close()) {
             System.exit(1);
