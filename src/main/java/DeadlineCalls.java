@@ -363,11 +363,15 @@ public final class DeadlineCalls {
     }
 
     private void makeTries() {
-        // The chain grows on the way, but a call made here is never ASKING yet.
+        // The chain grows on the way; those that ask were there ahead of this.
+        Call last = newest;
         for (Call c = oldest; c != null; c = c.next) {
             Service asked = c.asked;
             if (c.state == ASKING && c.wantsTry && asked != null) {
                 makeTry(c, asked);
+            }
+            if (c == last) {
+                break;
             }
         }
     }

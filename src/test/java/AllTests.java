@@ -1,10 +1,13 @@
-/** Runs every test of the project. */
+import java.io.IOException;
+
+/** Runs every test of the project, with the project's folder as the present one. */
 public final class AllTests {
     private AllTests() {
     }
 
-    public static void main(String[] args) {
+    public static void main(String[] args) throws IOException {
         FaceTest.run();
+        ReadmeTest.run();
         ServicesTest.run();
         CallsTest.run();
         TickTest.run();

@@ -5,6 +5,8 @@ final class LimitsTest {
 
     static void run() {
         firstSettingsOfEachService();
+        neverFailsAtFirst();
+        noPatienceAtFirst();
         leastWork();
         mostWork();
         eachOfOne();
@@ -41,6 +43,36 @@ final class LimitsTest {
             Check.same("services: no row of " + s + ", so no call more", x.calls(), 7);
             Check.same("2 work before of " + s, x.setWork(s, 2, 0), 1);
             Check.same("4 workers before of " + s, x.setRoom(s, 3, 4, 0), 2);
+        }
+    }
+
+    /** More works than the greatest number of which one could fail, twice. */
+    private static void neverFailsAtFirst() {
+        for (int s = 0; s < 6; s++) {
+            DeadlineCalls x = new DeadlineCalls();
+            for (int i = 0; i < 41; i++) {
+                x.call(s, 9);
+                x.pass(1);
+            }
+            Check.same("services: none of 41 works of " + s + " fails", x.count(s, DeadlineCalls.DONE), 41);
+        }
+    }
+
+    private static void noPatienceAtFirst() {
+        for (int s = 1; s < 6; s++) {
+            // Two roots work for 20 ticks, two for the next 20; the try's turn comes at 40, and its end at 60.
+            DeadlineCalls x = new DeadlineCalls();
+            x.ask(s - 1, s);
+            x.setWork(s, 20, 0);
+            for (int i = 0; i < 5; i++) {
+                x.call(s, 90);
+            }
+            int root = x.call(s - 1, 90);
+            x.pass(59);
+            Check.same("services: the only try of " + s + " for 58 ticks", x.calls(), root + 2);
+            Check.same("services: it is not over", x.below(root), 1);
+            x.pass(1);
+            Check.same("services: then it answers", x.state(root), DeadlineCalls.DONE);
         }
     }
 
